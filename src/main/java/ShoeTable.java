@@ -401,11 +401,14 @@ public final class ShoeTable {
             }
         }
 
-        void remove(int rank) {
-            if (rank >= 1 && rank <= RANKS && counts[rank] > 0) {
+        /** Takes one card of a rank out, if there is one: how many there were. */
+        int remove(int rank) {
+            int had = rank >= 1 && rank <= RANKS ? counts[rank] : 0;
+            if (had > 0) {
                 counts[rank]--;
                 total--;
             }
+            return had;
         }
 
         void clear() {
@@ -573,10 +576,11 @@ public final class ShoeTable {
 
         private final Rules rules = new Rules();
         private final Cards shoe = new Cards();
+        private final Cards whole = new Cards();
         private final Hand hand = new Hand();
         private int up = NONE;
         int bestAct = NONE;
-        long bestTotal = 0;
+        private long bestTotal = 0;
 
         /** What is paid to the player, by the value at which the house stops. */
         private final long[] pay = new long[MOST_OF_HOUSE + 1];
@@ -618,9 +622,10 @@ public final class ShoeTable {
 
         long actTotal(int act) {
             numberHeaps();
+            playerRound++;
             switch (act) {
                 case STAND: return standTotal(0, hand.sum, hand.ace, hand.size);
-                case DRAW: playerRound++; return playerTotal(0, hand.sum, hand.ace, hand.size, shoe.total);
+                case DRAW: return playerTotal(0, hand.sum, hand.ace, hand.size, shoe.total);
                 case DOUBLE: return doubleTotal();
                 case SPLIT: return splitTotal(hand.card(0));
                 default: return GIVEN_UP * orders(shoe.total);
@@ -664,38 +669,32 @@ public final class ShoeTable {
 
         long dealTotal() {
             long all = 0;
+            whole.copy(shoe);
             for (int first = 1; first <= RANKS; first++) {
                 for (int second = first; second <= RANKS; second++) {
-                    long ways = waysToDeal(first, second);
-                    if (ways > 0) {
-                        hand.clear();
-                        hand.add(first);
-                        hand.add(second);
-                        shoe.remove(first);
-                        shoe.remove(second);
-                        for (int third = 1; third <= RANKS; third++) {
-                            int n = shoe.count(third);
-                            shoe.remove(third);
-                            up = third;
-                            if (n > 0) {
-                                findBest();
-                                // Of two cards that are bust no act is there.
-                                all += ways * n * (bestAct == NONE ? LOSS * orders(shoe.total) : bestTotal);
-                                shoe.add(third);
-                            }
+                    for (int third = 1; third <= RANKS; third++) {
+                        long ways = handOut(first, second, third);
+                        if (ways > 0) {
+                            findBest();
+                            // Of two cards that are bust no act is there.
+                            all += ways * (bestAct == NONE ? LOSS * orders(shoe.total) : bestTotal);
                         }
-                        shoe.add(first);
-                        shoe.add(second);
                     }
                 }
             }
             return all;
         }
 
-        /** Both orders in one, since two cards are worth the same in either. */
-        private long waysToDeal(int first, int second) {
-            int n = shoe.count(first);
-            return first == second ? n * (n - 1) : 2 * n * shoe.count(second);
+        /** Two cards for the player, and UP, from the whole shoe: in how many ways they come so. */
+        private long handOut(int first, int second, int third) {
+            shoe.copy(whole);
+            long ways = (long) shoe.remove(first) * shoe.remove(second) * shoe.remove(third);
+            hand.clear();
+            hand.add(first);
+            hand.add(second);
+            up = third;
+            // Two cards are worth the same in either order, so each two are looked at once.
+            return first == second ? ways : 2 * ways;
         }
 
         private void numberHeaps() {
@@ -730,9 +729,8 @@ public final class ShoeTable {
             }
             long all = 0;
             for (int rank = 1; rank <= RANKS; rank++) {
-                int n = shoe.count(rank);
+                int n = shoe.remove(rank);
                 if (n > 0) {
-                    shoe.remove(rank);
                     all += n * houseTotal(heap + step[rank], sum + rank, ace || rank == ACE, cards - 1);
                     shoe.add(rank);
                 }
@@ -755,9 +753,8 @@ public final class ShoeTable {
             }
             long all = 0;
             for (int rank = 1; rank <= RANKS && cards > 0; rank++) {
-                int n = shoe.count(rank);
+                int n = shoe.remove(rank);
                 if (n > 0) {
-                    shoe.remove(rank);
                     all += n * playerTotal(heap + step[rank], sum + rank, ace || rank == ACE, size + 1, cards - 1);
                     shoe.add(rank);
                 }
@@ -774,9 +771,8 @@ public final class ShoeTable {
         private long doubleTotal() {
             long all = 0;
             for (int rank = 1; rank <= RANKS; rank++) {
-                int n = shoe.count(rank);
+                int n = shoe.remove(rank);
                 if (n > 0) {
-                    shoe.remove(rank);
                     all += n * standTotal(step[rank], hand.sum + rank, hand.ace || rank == ACE, hand.size + 1);
                     shoe.add(rank);
                 }
@@ -787,13 +783,11 @@ public final class ShoeTable {
         private long splitTotal(int card) {
             long all = 0;
             for (int first = 1; first <= RANKS; first++) {
-                int n = shoe.count(first);
-                shoe.remove(first);
+                long n = shoe.remove(first);
                 for (int second = 1; second <= RANKS && n > 0; second++) {
-                    int m = shoe.count(second);
+                    int m = shoe.remove(second);
                     if (m > 0) {
-                        shoe.remove(second);
-                        all += (long) n * m * bothTotal(card, first, second);
+                        all += n * m * bothTotal(card, first, second);
                         shoe.add(second);
                     }
                 }
