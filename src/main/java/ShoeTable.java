@@ -571,8 +571,6 @@ public final class ShoeTable {
     private static final class Odds {
         /** Twelve cards of ten ranks make the most different heaps with counts 2, 2, 1, .., 1. */
         private static final int HEAPS = 2304;
-        /** A house that draws has a sum below STANDS, so it stops below 21 + 10. */
-        private static final int MOST_OF_HOUSE = 30;
 
         private final Rules rules = new Rules();
         private final Cards shoe = new Cards();
@@ -582,8 +580,8 @@ public final class ShoeTable {
         int bestAct = NONE;
         private long bestTotal = 0;
 
-        /** What is paid to the player, by the value at which the house stops. */
-        private final long[] pay = new long[MOST_OF_HOUSE + 1];
+        /** What is paid to the player, by the end of the house. */
+        private final long[] pay = new long[MOST_TARGET + 1];
         /** A heap that left the shoe has for its number the sum of the steps of its cards. */
         private final int[] step = new int[RANKS + 1];
         /** Totals that have been found, by heap; they hold only in the round that found them. */
@@ -649,8 +647,8 @@ public final class ShoeTable {
 
         long endTotal(int end) {
             numberHeaps();
-            for (int value = 0; value <= MOST_OF_HOUSE; value++) {
-                pay[value] = rules.end(value) == end ? 1 : 0;
+            for (int i = 0; i <= MOST_TARGET; i++) {
+                pay[i] = i == end ? 1 : 0;
             }
             houseRound++;
             return houseTotal(0, up, up == ACE, shoe.total);
@@ -707,10 +705,13 @@ public final class ShoeTable {
 
         /** The house ends, a heap having left the shoe before, and one hand is settled. */
         private long standTotal(int heap, int sum, boolean ace, int size) {
+            if (rules.isBust(sum)) {
+                return LOSS * orders(shoe.total);
+            }
             int value = rules.value(sum, ace);
             boolean natural = rules.isNatural(value, size);
-            for (int i = 0; i <= MOST_OF_HOUSE; i++) {
-                pay[i] = rules.settled(value, natural, rules.end(i));
+            for (int end = 0; end <= MOST_TARGET; end++) {
+                pay[end] = rules.settled(value, natural, end);
             }
             houseRound++;
             return houseTotal(heap, up, up == ACE, shoe.total);
@@ -722,7 +723,7 @@ public final class ShoeTable {
             }
             int value = rules.value(sum, ace);
             if (cards <= 0 || !rules.goesOn(value, value != sum)) {
-                return value <= MOST_OF_HOUSE ? pay[value] * orders(cards) : 0;
+                return pay[rules.end(value)] * orders(cards);
             }
             if (houseRounds[heap] == houseRound) {
                 return houseTotals[heap];
@@ -802,9 +803,8 @@ public final class ShoeTable {
         private long bothTotal(int card, int first, int second) {
             int firstValue = rules.value(card + first, card == ACE || first == ACE);
             int secondValue = rules.value(card + second, card == ACE || second == ACE);
-            for (int i = 0; i <= MOST_OF_HOUSE; i++) {
-                int end = rules.end(i);
-                pay[i] = rules.settled(firstValue, false, end) + rules.settled(secondValue, false, end);
+            for (int end = 0; end <= MOST_TARGET; end++) {
+                pay[end] = rules.settled(firstValue, false, end) + rules.settled(secondValue, false, end);
             }
             houseRound++;
             return houseTotal(step[first] + step[second], up, up == ACE, shoe.total);
