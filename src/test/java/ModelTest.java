@@ -4,11 +4,13 @@ import java.util.Random;
 public final class ModelTest {
     private static int wrong = 0;
     private static int calls = 0;
+    private static final int MOST_CALLS = 512;
 
     private final Random random;
     private final StringBuilder run = new StringBuilder();
     private final ShoeTable table = new ShoeTable();
     private final Model model = new Model();
+    private int callsOfRun = 0;
 
     private ModelTest(long seed) {
         random = new Random(seed);
@@ -27,6 +29,9 @@ public final class ModelTest {
         for (int seed = 5000; seed < 5040 && wrong < 5; seed++) {
             new ModelTest(seed).playWideShoe();
         }
+        for (int seed = 6000; seed < 6060 && wrong < 5; seed++) {
+            new ModelTest(seed).playLong(4 + seed % 12);
+        }
         System.out.println(calls + " calls compared, " + wrong + " wrong");
         if (wrong != 0) {
             System.exit(1);
@@ -35,6 +40,7 @@ public final class ModelTest {
 
     private void due(String call, long got, long want) {
         calls++;
+        callsOfRun++;
         run.append(call).append(" = ").append(want).append('\n');
         if (got != want) {
             wrong++;
@@ -90,6 +96,14 @@ public final class ModelTest {
             due("fresh()", table.fresh(), model.fresh());
         }
         for (int i = 0; i < length && wrong == 0; i++) {
+            call(cards);
+        }
+    }
+
+    /** About as many calls as an object is used for; no single step makes more than thirty. */
+    private void playLong(int cards) {
+        play(cards, 40);
+        while (callsOfRun <= MOST_CALLS - 30 && wrong == 0) {
             call(cards);
         }
     }

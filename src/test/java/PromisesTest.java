@@ -1,5 +1,5 @@
 /** Each promise with answers that were worked out by hand: ordinary calls, edges, wrong numbers. */
-public final class PromisesTest {
+public final class PromisesTest extends Tables {
     private static final int NONE = -1, OUTSIDE = -1001, STATE = -1002, FULL = -1003, LARGE = -1004;
     private static final int[] FAR = {Integer.MIN_VALUE, -1, 11, 33, 1000, Integer.MAX_VALUE};
     private static int wrong = 0;
@@ -64,45 +64,6 @@ public final class PromisesTest {
     private static void dueDeal(ShoeTable x, long upper, long lower) {
         due("deal(0)", x.deal(0), upper);
         due("deal(1)", x.deal(1), lower);
-    }
-
-    /** A table whose shoe has just these cards, fresh. */
-    private static ShoeTable of(int... ranks) {
-        ShoeTable x = new ShoeTable();
-        add(x, ranks);
-        x.fresh();
-        return x;
-    }
-
-    private static void add(ShoeTable x, int... ranks) {
-        for (int r : ranks) {
-            x.shoe(r, x.left(r) + 1);
-        }
-    }
-
-    /** Puts cards into THE HAND that come over and above those of the shoe. */
-    private static void hold(ShoeTable x, int... ranks) {
-        for (int r : ranks) {
-            add(x, r);
-            x.take(r, 0);
-        }
-    }
-
-    private static void showUp(ShoeTable x, int rank) {
-        add(x, rank);
-        x.take(rank, 1);
-    }
-
-    /** A hand against UP, with the cards that are left. */
-    private static ShoeTable table(int[] hand, int up, int... left) {
-        ShoeTable x = of(left);
-        hold(x, hand);
-        showUp(x, up);
-        return x;
-    }
-
-    private static int[] cards(int... ranks) {
-        return ranks;
     }
 
     private static void newObject() {
