@@ -32,6 +32,7 @@ public final class TableBoundsTest extends Check {
         countByMarksAsTheyAre();
         toldAsksOnly();
         settleNeedsBoth();
+        houseDrawsByTheDraw();
         houseWithoutCards();
         houseBelowStands();
         houseSoftly();
@@ -542,6 +543,28 @@ public final class TableBoundsTest extends Check {
         due("left(0) " + how, x.left(0), left);
         due("told(8) " + how, x.told(8), before);
         due("told(7) " + how, x.told(7), halves);
+    }
+
+    private static ShoeTable seededTable(int seed) {
+        ShoeTable x = table(cards(10, 8), 2, 1, 2, 3, 4, 5, 6, 7, 8, 9, 10);
+        x.seed(seed);
+        return x;
+    }
+
+    private static void houseDrawsByTheDraw() {
+        says("THE HOUSE draws by THE DRAW, and it is settled");
+        for (int seed = 0; seed < 20_000; seed += 1000) {
+            ShoeTable x = seededTable(seed);
+            ShoeTable y = seededTable(seed);
+            x.settle();
+            while (y.left(0) > x.left(0)) {
+                y.draw(2);
+            }
+            for (int r = 0; r <= 10; r++) {
+                due("left(" + r + ") after settle() and after as many draws", x.left(r), y.left(r));
+            }
+            due("the next draw", x.draw(2), y.draw(2));
+        }
     }
 
     private static void houseWithoutCards() {
