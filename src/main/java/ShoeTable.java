@@ -79,9 +79,6 @@ public final class ShoeTable {
     }
 
     public int rule(int what, int v) {
-        if (!rules.allows(what, v)) {
-            return OUTSIDE;
-        }
         return rules.change(what, v);
     }
 
@@ -492,7 +489,7 @@ public final class ShoeTable {
 
         private final int[] now = {21, 17, 0, 1, 1, 1, 3};
 
-        boolean allows(int what, int v) {
+        private boolean allows(int what, int v) {
             if (what < TARGET || what > BONUS || v < LEAST[what] || v > MOST[what]) {
                 return false;
             }
@@ -502,8 +499,11 @@ public final class ShoeTable {
             return what != STANDS || v <= now[TARGET];
         }
 
-        /** Changes a rule that allows() has let through: what it was. */
+        /** A rule becomes v: what it was; OUTSIDE, and nothing changes, if v is out of its bounds. */
         int change(int what, int v) {
+            if (!allows(what, v)) {
+                return OUTSIDE;
+            }
             int was = now[what];
             now[what] = v;
             return was;
@@ -718,7 +718,7 @@ public final class ShoeTable {
         }
 
         private long houseTotal(int heap, int sum, boolean ace, int cards) {
-            if (heap < 0 || heap >= HEAPS) {
+            if (heap < 0 || heap >= HEAPS || sum < 0) {
                 return 0;
             }
             int value = rules.value(sum, ace);
